@@ -50,7 +50,7 @@ public final class BetweenThisAndThat {
         for (int i = 0; i < FIRST_TEXT.length(); i++) {
             reader.append(FIRST_TEXT.charAt(i));
         }
-        readTape();
+        text();
     }
 
     // ---- the law, the year
@@ -90,7 +90,17 @@ public final class BetweenThisAndThat {
     }
 
     public int text() {
-        return textCount >= TEXTS ? FULL : readTape();
+        if (textCount >= TEXTS) {
+            return FULL;
+        }
+        boolean whole = reader.read();
+        reader.size = 0;
+        if (!whole) {
+            return FAULT - reader.at;
+        }
+        texts[textCount].becomes(reader.draft);
+        textCount++;
+        return textCount - 1;
     }
 
     public int force(int t) {
@@ -563,17 +573,6 @@ public final class BetweenThisAndThat {
         return within(s, 0, now.sayingCount - 1);
     }
 
-    private int readTape() {
-        boolean whole = reader.read();
-        reader.size = 0;
-        if (!whole) {
-            return FAULT - reader.at;
-        }
-        texts[textCount].becomes(reader.draft);
-        textCount++;
-        return textCount - 1;
-    }
-
     private int addSaying(int kindMore, int of, int low, int high) {
         if (!within(kindMore, 0, 10 * KINDS - 1) || !isQuantity(of)
                 || !within(low, 0, TOP) || !within(high, 0, TOP) || low > high) {
@@ -933,7 +932,7 @@ public final class BetweenThisAndThat {
             if (part == RECKONS) {
                 named = 0;
                 for (int i = 0; i < size; i++) {
-                    named |= code[i] >= FIRST_NAME ? 1 << code[i] - FIRST_NAME : 0;
+                    named |= code[i] >= FIRST_NAME ? 1 << (code[i] - FIRST_NAME) : 0;
                 }
             }
         }
@@ -1063,7 +1062,11 @@ public final class BetweenThisAndThat {
 
         private boolean readNot() {
             if (token == KEY_NOT) {
-                if (!opened() || !readNot()) {
+                if (!opens()) {
+                    return false;
+                }
+                step();
+                if (!readNot()) {
                     return false;
                 }
                 open--;
@@ -1121,14 +1124,22 @@ public final class BetweenThisAndThat {
                 return true;
             }
             if (token == '-') {
-                if (!opened() || !readOne()) {
+                if (!opens()) {
+                    return false;
+                }
+                step();
+                if (!readOne()) {
                     return false;
                 }
                 open--;
                 draft.add(Text.NEGATE);
                 return true;
             }
-            if (token != '(' || !opened() || !readAny() || token != ')') {
+            if (token != '(' || !opens()) {
+                return false;
+            }
+            step();
+            if (!readAny() || token != ')') {
                 return false;
             }
             open--;
@@ -1136,13 +1147,12 @@ public final class BetweenThisAndThat {
             return true;
         }
 
-        /** Goes into one that stays open; so reading never goes deeper than the document lets it. */
-        private boolean opened() {
+        /** One more is open, if it may be; so reading never goes deeper than the document lets it. */
+        private boolean opens() {
             if (open >= OPEN) {
                 return false;
             }
             open++;
-            step();
             return true;
         }
 
@@ -1171,8 +1181,18 @@ public final class BetweenThisAndThat {
             value = tape[at] - 'a';
             if (next - at == 1 && value < QUANTITIES) {
                 token = NAME;
+            } else if (inHand("reckons")) {
+                token = FIRST_KEY + RECKONS;
+            } else if (inHand("costs")) {
+                token = FIRST_KEY + COSTS;
+            } else if (inHand("meets")) {
+                token = FIRST_KEY + MEETS;
+            } else if (inHand("or")) {
+                token = KEY_OR;
+            } else if (inHand("and")) {
+                token = KEY_AND;
             } else {
-                token = keyInHand();
+                token = inHand("not") ? KEY_NOT : WRONG;
             }
         }
 
@@ -1183,25 +1203,6 @@ public final class BetweenThisAndThat {
                 next++;
             }
             token = next - at > DIGITS ? WRONG : NUMBER;
-        }
-
-        private int keyInHand() {
-            if (inHand("reckons")) {
-                return FIRST_KEY + RECKONS;
-            }
-            if (inHand("costs")) {
-                return FIRST_KEY + COSTS;
-            }
-            if (inHand("meets")) {
-                return FIRST_KEY + MEETS;
-            }
-            if (inHand("or")) {
-                return KEY_OR;
-            }
-            if (inHand("and")) {
-                return KEY_AND;
-            }
-            return inHand("not") ? KEY_NOT : WRONG;
         }
 
         private boolean inHand(String key) {
