@@ -50,7 +50,9 @@ public final class BetweenThisAndThat {
         for (int i = 0; i < FIRST_TEXT.length(); i++) {
             reader.append(FIRST_TEXT.charAt(i));
         }
-        text();
+        reader.read();
+        texts[0].becomes(reader.draft);
+        textCount = 1;
     }
 
     // ---- the law, the year
@@ -93,9 +95,7 @@ public final class BetweenThisAndThat {
         if (textCount >= TEXTS) {
             return FULL;
         }
-        boolean whole = reader.read();
-        reader.size = 0;
-        if (!whole) {
+        if (!reader.read()) {
             return FAULT - reader.at;
         }
         texts[textCount].becomes(reader.draft);
@@ -1011,12 +1011,15 @@ public final class BetweenThisAndThat {
             }
         }
 
+        /** Whether the tape, which is empty then, is a text: the draft. */
         boolean read() {
             draft.clear();
             open = 0;
             next = 0;
             step();
-            return readPart(RECKONS) && readPart(COSTS) && readPart(MEETS) && token == END;
+            boolean whole = readPart(RECKONS) && readPart(COSTS) && readPart(MEETS) && token == END;
+            size = 0;
+            return whole;
         }
 
         private boolean readPart(int part) {

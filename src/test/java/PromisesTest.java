@@ -207,6 +207,8 @@ public final class PromisesTest {
         fault("a", 0);
         fault("reckons g" + rest, 8);
         fault("reckons ab" + rest, 8);
+        fault("reckons az" + rest, 8);
+        fault("reckons zebra" + rest, 8);
         fault("reckons a b" + rest, 10);
         fault("reckons 12a" + rest, 10);
         fault("reckons 12345" + rest, 8);
@@ -241,6 +243,10 @@ public final class PromisesTest {
         fault("reckons a nota" + rest, 10);
         fault("reckons orr" + rest, 8);
         fault("reckons 1 {", 10);
+        BetweenThisAndThat x = fresh();
+        due("a long one", textOf(x, "reckons 12345678901234567890"), -108);
+        due("what the tape had does not count", textOf(x, "reckons 123"), -111);
+        due("a word's end likewise", textOf(x, "reckons"), -107);
     }
 
     private static void faultsOfOpenOnes() {
@@ -461,6 +467,13 @@ public final class PromisesTest {
         x.link(0, 1, 980, 999);
         due("can't, by 999", x.can(), 0);
         x = fresh();
+        x.link(0, 5, -9, -9);
+        x.link(1, 4, -9, -9);
+        due("can, by links that tell less", x.can(), 1);
+        x.link(5, 4, 1, 1);
+        x.link(1, 0, 0, 0);
+        due("can't, by a ring of four", x.can(), 0);
+        x = fresh();
         x.link(0, 1, 1, 5);
         x.link(1, 2, 1, 5);
         due("can", x.can(), 1);
@@ -535,6 +548,10 @@ public final class PromisesTest {
         due("apart by two links", x.apart(0, 1, 0), -3);
         due("apart by two links", x.apart(0, 1, 1), 3);
         due("apart by one", x.apart(0, 2, 0), 3);
+        x.link(0, 3, -9, -9);
+        x.link(0, 4, 7, 8);
+        due("by way of a", x.apart(3, 4, 0), 16);
+        due("by way of a", x.apart(3, 4, 1), 17);
         due("alike", x.apart(5, 5, 0), 0);
         due("alike", x.apart(5, 5, 1), 0);
         due("a 6", x.apart(6, 0, 0), -100000);
@@ -646,12 +663,15 @@ public final class PromisesTest {
         due("wraps", x.between(2, 0), Math.min(0, 999 * 999 * 999 * 9999));
         reckons(x, "(f=999)*(9999*9999*21+a*0)-9999*9999*21*(f=0)");
         due("a wide width", x.between(3, 2), 2L * 9999 * 9999 * 21);
-        due("only corners", x.between(0, 3), NO);
+        reckons(x, "a-b*0+(c-d*0)+(e-f)");
+        due("all six named", x.between(4, 0), 2 + 1 - 999);
+        due("all six named", x.between(4, 1), 5 + 1 + 999);
+        due("what 3", x.between(0, 3), NO);
         due("what -1", x.between(0, -1), NO);
-        due("text 4", x.between(4, 0), NO);
+        due("text 5", x.between(5, 0), NO);
         due("text -1", x.between(-1, 0), NO);
         reckons(x, "d = 500");
-        due("only the ends of spans", x.between(4, 1), 0);
+        due("only the ends of spans", x.between(5, 1), 0);
         x.link(0, 1, 900, 900);
         due("can't be", x.between(0, 0), NO);
     }
@@ -1015,6 +1035,9 @@ public final class PromisesTest {
         due("3 of 6", x.odds(0, 6, 1), 3);
         due("1 of 4", x.odds(1, 4, 0), 1);
         due("1 of 4", x.odds(1, 4, 1), 4);
+        due("1 of 1", x.odds(0, 1, 0), 1);
+        due("1 of 1", x.odds(0, 1, 1), 1);
+        due("0 of 1", x.odds(1, 1, 0), 0);
         due("0 of 2", x.odds(1, 2, 0), 0);
         due("0 of 2", x.odds(1, 2, 1), 1);
         due("14 of 40", x.odds(0, 40, 0), 7);
