@@ -600,9 +600,10 @@ public final class BetweenThisAndThat {
 
     /** Leaves lowest and highest behind, too. */
     private long widthBySpans(Text text) {
-        lowest = Integer.MAX_VALUE;
-        highest = Integer.MIN_VALUE;
-        for (int way = 0; way < 1 << QUANTITIES; way++) {
+        setCorner(0);
+        lowest = text.tell(RECKONS, row, stack);
+        highest = lowest;
+        for (int way = 1; way < 1 << QUANTITIES; way++) {
             // a quantity that the text does not name makes no difference
             if ((way & ~text.named) == 0) {
                 setCorner(way);

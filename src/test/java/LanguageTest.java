@@ -45,6 +45,7 @@ public final class LanguageTest {
             require(!Pattern.compile("\\b" + word + (word.matches("\\w+") ? "\\b" : "")).matcher(code).find(),
                     "no " + word);
         }
+        library(code);
         require(!code.contains("->") && !code.contains("::"), "rule 2: no lambda, no method reference");
         require(!Pattern.compile("\" ?\\+|\\+ ?\"").matcher(code).find(), "rule 10: texts are not joined by +");
         Matcher imports = Pattern.compile("import ([\\w.]+);").matcher(code);
@@ -54,6 +55,24 @@ public final class LanguageTest {
         }
         require(text.chars().allMatch(sign -> sign < 128), "rule 4: signs are 1 to 127");
         require(text.lines().allMatch(line -> line.length() <= 120), "lines of 120 signs at most");
+    }
+
+    /** Of the library's classes just what rule 4 lists: functions, none of Integer's or Long's constants. */
+    private static void library(String code) {
+        Matcher each = Pattern.compile("\\b(Integer|Long|Math|System|Arrays)\\.(\\w+)(\\(?)").matcher(code);
+        int uses = 0;
+        while (each.find()) {
+            uses++;
+            String name = each.group(2);
+            boolean listed = !each.group(3).isEmpty();
+            switch (each.group(1)) {
+                case "System": listed &= name.equals("arraycopy"); break;
+                case "Arrays": listed &= Set.of("copyOf", "copyOfRange", "fill").contains(name); break;
+                default: listed &= !name.endsWith("Exact");
+            }
+            require(listed, "rule 4: " + each.group());
+        }
+        require(uses > 10, "the uses of the library are found");
     }
 
     private static void methodLengths(String code) {
